@@ -354,7 +354,7 @@ final class PlainRanks {
     }
 
     /** All changes of so many bells, from the least one to the greatest one. */
-    private static List<String> all(int bells) {
+    static List<String> all(int bells) {
         if (!ALL.containsKey(bells)) {
             List<String> changes = new ArrayList<>();
             addAll("", "01234567".substring(0, bells), changes);

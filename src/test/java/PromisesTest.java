@@ -1,8 +1,8 @@
 /** Each promise of the document by itself: ordinary inputs, edges, wrong inputs. */
 public final class PromisesTest {
-    private static final Class<IndexOutOfBoundsException> INDEX = IndexOutOfBoundsException.class;
-    private static final Class<IllegalArgumentException> ARGUMENT = IllegalArgumentException.class;
-    private static final Class<IllegalStateException> STATE = IllegalStateException.class;
+    private static final Class<IndexOutOfBoundsException> INDEX = Checks.INDEX;
+    private static final Class<IllegalArgumentException> ARGUMENT = Checks.ARGUMENT;
+    private static final Class<IllegalStateException> STATE = Checks.STATE;
 
     private static final int[] LONGEST = {228, 240, 201, 135, 57, 195, 147, 207, 240, 9};
 
@@ -203,15 +203,13 @@ public final class PromisesTest {
     /** A way of so many places into kept ones and pairs is one of Fibonacci's. */
     private static void stepsOfEachNumberOfBells() {
         int[] due = {0, 0, 2, 3, 5, 8, 13, 21, 34};
-        BellRanks x = new BellRanks();
         for (int bells = 2; bells <= 8; bells++) {
-            x.setBells(bells);
             int taken = 0;
             for (int kept = -2; kept < 600; kept++) {
+                BellRanks x = book(bells);
                 int tried = kept;
                 if (Checks.outcome(() -> x.step(tried)) instanceof Integer) {
                     taken++;
-                    x.clear();
                 }
             }
             checks.same("steps of " + bells + " bells", taken, due[bells]);
@@ -468,26 +466,18 @@ public final class PromisesTest {
 
     private static void digest() {
         BellRanks x = new BellRanks();
-        checks.same("digest, new", x.digest(), folded(5, 120, 0, 0, 0, 0));
+        checks.same("digest, new", x.digest(), Checks.folded(5, 120, 0, 0, 0, 0));
         x.setBells(3);
         x.write(3);
         x.write(0);
         x.step(4);
         x.step(1);
         x.ring(1, 1);
-        checks.same("digest", x.digest(), folded(3, 6, 2, 2, 2, 1,
+        checks.same("digest", x.digest(), Checks.folded(3, 6, 2, 2, 2, 1,
             3, 2, 0, 1, 3, 3, 0, 2, 1, 2, 0,
             2, 1, 1, 2, 2, 2, 1, 1, 1, 0, 2,
             4, 1));
         counts("digest changes nothing", x, 3, 6, 2, 2, 2, 1);
-    }
-
-    private static long folded(int... numbers) {
-        long d = 1579;
-        for (int number : numbers) {
-            d = d * 31 + number;
-        }
-        return d;
     }
 
     // ---- terms
@@ -516,12 +506,7 @@ public final class PromisesTest {
     }
 
     private static BellRanks book(int bells, int... ranks) {
-        BellRanks x = new BellRanks();
-        x.setBells(bells);
-        for (int rank : ranks) {
-            x.write(rank);
-        }
-        return x;
+        return Checks.book(bells, ranks);
     }
 
     private static void noSuchChange(String what, BellRanks x, int written, OfChange call) {
@@ -532,11 +517,7 @@ public final class PromisesTest {
     }
 
     private static void row(String what, BellRanks x, int change, String due) {
-        StringBuilder got = new StringBuilder();
-        for (int place = 0; place < x.count(0); place++) {
-            got.append(x.bell(change, place));
-        }
-        checks.same(what, got.toString(), due);
+        checks.same(what, Checks.row(x, change), due);
     }
 
     private static void counts(String what, BellRanks x, int... due) {
@@ -551,25 +532,7 @@ public final class PromisesTest {
         }
     }
 
-    /** By counting the lesser changes one by one, as the document says it. */
     private static int rankOf(String bells) {
-        int rank = 0;
-        long greatest = Long.parseLong(bells);
-        for (long number = 0; number < greatest; number++) {
-            if (isChange(number, bells.length())) {
-                rank++;
-            }
-        }
-        return rank;
-    }
-
-    private static boolean isChange(long number, int bells) {
-        int seen = 0;
-        long rest = number;
-        for (int i = 0; i < bells; i++) {
-            seen |= 1 << rest % 10;
-            rest /= 10;
-        }
-        return seen == (1 << bells) - 1;
+        return Checks.rankOf(bells);
     }
 }
