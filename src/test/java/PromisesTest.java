@@ -4,8 +4,6 @@ public final class PromisesTest {
     private static final Class<IllegalArgumentException> ARGUMENT = Checks.ARGUMENT;
     private static final Class<IllegalStateException> STATE = Checks.STATE;
 
-    private static final int[] LONGEST = {228, 240, 201, 135, 57, 195, 147, 207, 240, 9};
-
     private static final Checks checks = new Checks();
 
     public static void main(String[] args) {
@@ -35,6 +33,7 @@ public final class PromisesTest {
         mean();
         digest();
         exceptionsChangeNothing();
+        exampleOfTheReadme();
         checks.end();
     }
 
@@ -391,7 +390,7 @@ public final class PromisesTest {
      */
     private static void comesLatest() {
         BellRanks x = book(8, 0, 33333);
-        for (int kept : LONGEST) {
+        for (int kept : Samples.LONGEST) {
             x.step(kept);
         }
         checks.same("comes, the longest", x.comes(0), 150);
@@ -497,6 +496,21 @@ public final class PromisesTest {
         checks.fails("step", ARGUMENT, () -> x.step(0));
         checks.fails("ring", ARGUMENT, () -> x.ring(0, 201));
         checks.same("digest after exceptions", x.digest(), before);
+    }
+
+    // ---- README.md
+
+    private static void exampleOfTheReadme() {
+        BellRanks x = new BellRanks();
+        int change = x.write(0);
+        checks.same("readme: number", change, 0);
+        checks.same("readme: step", x.step(16), 1);
+        checks.same("readme: step again", x.step(1), 2);
+        checks.same("readme: ring", x.ring(change, 3), 82);
+        row("readme: rung", x, change, "31402");
+        checks.same("readme: order", x.told(change, 5), 2);
+        checks.same("readme: comes", x.comes(change), 10);
+        checks.fails("readme: no such change", INDEX, () -> x.bell(1, 0));
     }
 
     // ---- what the tests share
